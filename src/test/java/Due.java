@@ -5,10 +5,16 @@ final class Due {
         long answer();
     }
 
+    private static String sentence = "";
     private static int wrong = 0;
     private static int asked = 0;
 
     private Due() {
+    }
+
+    /** The document's words that the next answers hold or break; they are printed with each wrong one. */
+    static void sentence(String words) {
+        sentence = "\"" + words + "\": ";
     }
 
     static void is(String call, long got, long want) {
@@ -24,6 +30,29 @@ final class Due {
         same(call, answerOf(made), "throws." + want.getSimpleName());
     }
 
+    /** A call that is refused with this answer, and changes nothing. */
+    static void isRefused(LitreFractions x, String call, Call made, long want) {
+        String before = countsOf(x);
+        same(call, answerOf(made), Long.toString(want));
+        same("counts behind " + call, countsOf(x), before);
+    }
+
+    /** A call that is refused with this exception, and changes nothing. */
+    static void isRefused(LitreFractions x, String call, Call made, Class<? extends RuntimeException> want) {
+        String before = countsOf(x);
+        isThrown(call, made, want);
+        same("counts behind " + call, countsOf(x), before);
+    }
+
+    /** Six calls of the 512. */
+    static String countsOf(LitreFractions x) {
+        String counts = x.told(0, 3) + " amounts, " + x.told(0, 4) + " weights, rows";
+        for (int table = 0; table < 4; table++) {
+            counts += " " + x.told(table, 5);
+        }
+        return counts;
+    }
+
     static String answerOf(Call made) {
         try {
             return Long.toString(made.answer());
@@ -36,7 +65,7 @@ final class Due {
         asked++;
         if (!got.equals(want)) {
             wrong++;
-            System.out.println(call + " answered " + got + ", due is " + want);
+            System.out.println(sentence + call + " answered " + got + ", due is " + want);
         }
     }
 
